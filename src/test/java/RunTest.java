@@ -81,6 +81,8 @@ public final class RunTest {
     private static void reckoning() {
         gives("a255 w1 a1 w1 a7 w1", 6, 255, 0, 7);
         gives("a200 a100 w1", 3, 44);
+        gives("x1 r0 w1", 3, 10);
+        gives("a1 r0 w1", 3, 10);
         gives("a12 x10 w1 x255 w1 x0 w1", 6 + 1, 6, 249, 249);
         fails("a5 f5 f6", 1, 2, 3);
         fails("f1", 1, 0, 1);
