@@ -1,153 +1,157 @@
-/** Promises 14 batch, 15 undo and 16 drop. */
+/** Promise 14: batch. */
 public final class BatchTest {
     public static void main(String[] args) {
-        batching();
-        undoing();
-        whatStaysIsLeft();
-        droppedBefore();
-        stayingForGoneOnes();
-        noMoreItems();
-        dropping();
+        howManyCame();
+        byNumbers();
+        originalsAlone();
+        noOriginals();
+        whatIsAgainstSome();
+        aBatchMore();
+        noneCame();
+        whatStays();
+        noSuchScript();
+        noMoreRoom();
+        itDoesNotGoOn();
         Expect.end();
     }
 
-    private static MigrateSteps withOriginals(int count) {
+    /** Scripts that add 1, add 2, and take only what is 2; originals of one byte, their number. */
+    static MigrateSteps withOriginals(int count) {
         MigrateSteps x = new MigrateSteps(50, 1);
         Expect.script(x, "r0 a1 w1");
         Expect.script(x, "r0 a2 w1");
         Expect.script(x, "r0 f2 w1");
-        for (int n = 0; n < count; n++) {
-            Expect.original(x, n);
-        }
+        Expect.originals(x, count);
         return x;
     }
 
-    private static void gone(MigrateSteps x, String due) {
-        for (int n = 0; n < due.length(); n++) {
-            Expect.same("about(" + n + ", 3)", x.about(n, 3), due.charAt(n) - '0');
-        }
-        Expect.same("no more items", x.about(due.length(), 3), MigrateSteps.NONE);
-    }
-
-    private static void batching() {
+    private static void howManyCame() {
+        Expect.sentence("All ORIGINALS are migrated by a script: how many DERIVED items came");
         MigrateSteps x = withOriginals(3);
-        for (int bad : new int[] {-1, 3, 10, Integer.MIN_VALUE, Integer.MAX_VALUE}) {
-            Expect.same("batch(" + bad + ")", x.batch(bad), MigrateSteps.NONE);
-        }
-        Expect.same("migrate", x.migrate(1, 0), 3);
-        Expect.same("all but one", x.batch(0), 2);
-        Expect.same("from 0", x.about(4, 1), 0);
-        Expect.same("from 2", x.about(5, 1), 2);
+        Expect.same("batch", x.batch(0), 3);
+        Expect.same("by 1 too", x.batch(1), 3);
+        Expect.gone(x, "000000000");
+        Expect.same("by which", x.about(3, 2), 0);
+        Expect.same("by which", x.about(8, 2), 1);
         Expect.bytes(x, 5, 3);
-        Expect.same("none", x.batch(0), 0);
-        Expect.same("failing ones", x.batch(2), 1);
-        Expect.same("from 2 by 2", x.about(6, 1), 2);
-        Expect.same("failed() of the latest", x.failed(), MigrateSteps.NONE);
-        Expect.same("counted()", x.counted(), 3 + 6 + 2 + 2 + 3);
-        Expect.same("what()", x.what(), 0);
-        Expect.same("no originals", withOriginals(0).batch(0), 0);
-        x.chain(1, 0);
-        Expect.same("a batch does not go on", x.batch(1), 3);
-        gone(x, "0000000000");
+        Expect.bytes(x, 8, 4);
     }
 
-    private static void undoing() {
+    private static void byNumbers() {
+        Expect.sentence("by numbers");
         MigrateSteps x = withOriginals(2);
-        Expect.same("none yet", x.undo(), MigrateSteps.NONE);
-        Expect.same("first", x.batch(0), 2);
-        Expect.same("second", x.batch(1), 2);
-        Expect.same("an empty one is none", x.batch(1), 0);
-        Expect.same("the second goes", x.undo(), 2);
-        gone(x, "000011");
-        Expect.same("again", x.batch(1), 2);
-        gone(x, "00001100");
-        Expect.same("it goes again", x.undo(), 2);
-        gone(x, "00001111");
-        Expect.same("the first goes", x.undo(), 2);
-        gone(x, "00111111");
-        Expect.same("no more", x.undo(), MigrateSteps.NONE);
-        Expect.bytes(x, 2, 1);
+        Expect.same("one between", x.migrate(0, 1), 2);
+        Expect.same("an original behind", Expect.original(x, 9), 3);
+        Expect.same("batch", x.batch(0), 3);
+        Expect.same("first of 0", x.about(4, 1), 0);
+        Expect.same("then of 1", x.about(5, 1), 1);
+        Expect.same("then of 3", x.about(6, 1), 3);
+        Expect.tried(x, 10);
     }
 
-    private static void whatStaysIsLeft() {
-        MigrateSteps x = withOriginals(2);
-        x.batch(0);
-        Expect.same("from the first", x.migrate(2, 1), 4);
-        Expect.same("one stays", x.undo(), 1);
-        gone(x, "00010");
-        Expect.same("it is undone", x.undo(), MigrateSteps.NONE);
-        Expect.same("one comes anew", x.batch(0), 1);
-        x.drop(4);
-        Expect.same("only the new one goes", x.undo(), 1);
-        gone(x, "000111");
-        MigrateSteps y = withOriginals(2);
-        y.batch(0);
-        y.migrate(2, 0);
-        y.migrate(3, 0);
-        Expect.same("all stay", y.undo(), 0);
-        gone(y, "000000");
-        Expect.same("it is undone all the same", y.undo(), MigrateSteps.NONE);
-    }
-
-    private static void droppedBefore() {
-        MigrateSteps x = withOriginals(2);
-        x.batch(0);
-        x.batch(1);
-        x.drop(4);
-        Expect.same("one is gone already", x.undo(), 1);
-        x.drop(2);
-        x.drop(3);
-        Expect.same("both are gone already", x.undo(), 0);
-        Expect.same("no more", x.undo(), MigrateSteps.NONE);
-    }
-
-    private static void stayingForGoneOnes() {
-        MigrateSteps x = withOriginals(1);
-        x.batch(0);
-        x.migrate(1, 1);
-        x.drop(2);
-        Expect.same("a gone item keeps none", x.undo(), 1);
-        gone(x, "011");
-    }
-
-    private static void noMoreItems() {
-        MigrateSteps x = withOriginals(40);
-        Expect.same("migrate", x.migrate(0, 2), -13);
-        Expect.same("twenty fit", x.batch(0), 20);
-        Expect.same("all were run", x.counted(), 2 + 40 * 3);
-        Expect.tried(x, 40);
-        Expect.same("what() stays", x.what(), -13);
-        Expect.same("none fits", x.batch(1), 0);
-        Expect.same("all were run", x.counted(), 2 + 40 * 3 + 40 * 3);
-        Expect.same("undo", x.undo(), 20);
-        Expect.same("undo", x.undo(), MigrateSteps.NONE);
-        Expect.same("numbers are not used again", x.batch(0), 0);
-        MigrateSteps y = withOriginals(1);
-        for (int n = 0; n < 59; n++) {
-            Expect.same("batch of one", y.batch(0), 1);
-            y.drop(n + 1);
-        }
-        Expect.same("full", y.batch(0), 0);
-        for (int n = 0; n < 59; n++) {
-            Expect.same("undo", y.undo(), 0);
-        }
-        Expect.same("undo", y.undo(), MigrateSteps.NONE);
-    }
-
-    private static void dropping() {
+    private static void originalsAlone() {
+        Expect.sentence("ORIGINALS, and no DERIVED items");
         MigrateSteps x = withOriginals(1);
         x.migrate(0, 0);
         x.migrate(1, 0);
-        Expect.same("an original", x.drop(0), MigrateSteps.STATE);
-        Expect.same("one is derived from it", x.drop(1), MigrateSteps.STATE);
-        Expect.same("a last one", x.drop(2), 1);
-        Expect.same("gone already", x.drop(2), MigrateSteps.NONE);
-        gone(x, "001");
-        Expect.same("free now", x.drop(1), 1);
-        Expect.same("an original without derived", x.drop(0), MigrateSteps.STATE);
-        gone(x, "011");
-        for (int bad : new int[] {-1, 3, 60, Integer.MIN_VALUE, Integer.MAX_VALUE}) {
-            Expect.same("drop(" + bad + ")", x.drop(bad), MigrateSteps.NONE);
+        Expect.same("batch", x.batch(1), 1);
+        Expect.same("of the original", x.about(3, 1), 0);
+        Expect.same("what came is left alone", x.batch(1), 0);
+        Expect.gone(x, "0000");
+    }
+
+    private static void noOriginals() {
+        Expect.sentence("how many came: no ORIGINALS, 0");
+        MigrateSteps x = withOriginals(0);
+        Expect.same("batch", x.batch(0), 0);
+        Expect.same("undo()", x.undo(), MigrateSteps.NONE);
+    }
+
+    private static void whatIsAgainstSome() {
+        Expect.sentence("how many came: not those that something is against");
+        MigrateSteps x = withOriginals(4);
+        Expect.same("-13 for all but one", x.batch(2), 1);
+        Expect.same("of 2", x.about(4, 1), 2);
+        x.migrate(1, 0);
+        Expect.same("-11 for one", x.batch(0), 3);
+        x.check(1, false, 2, 3);
+        Expect.same("-12 for all but one", x.batch(1), 1);
+        Expect.same("of 3", x.about(9, 1), 3);
+        Expect.script(x, "r0 w1");
+        x.check(3, true, 2, 1);
+        Expect.same("-17 for all but one", x.batch(3), 1);
+        Expect.same("of 1", x.about(10, 1), 1);
+    }
+
+    private static void aBatchMore() {
+        Expect.sentence("if some did, that is a BATCH more");
+        MigrateSteps x = withOriginals(3);
+        Expect.same("one came", x.batch(2), 1);
+        Expect.same("three came", x.batch(0), 3);
+        Expect.same("undo()", x.undo(), 3);
+        Expect.same("undo()", x.undo(), 1);
+        Expect.same("undo()", x.undo(), MigrateSteps.NONE);
+    }
+
+    private static void noneCame() {
+        Expect.sentence("if none came, that is no BATCH");
+        MigrateSteps x = withOriginals(2);
+        Expect.same("two came", x.batch(0), 2);
+        Expect.same("-11 for all", x.batch(0), 0);
+        Expect.same("-13 for all", x.batch(2), 0);
+        Expect.same("undo() of the one before", x.undo(), 2);
+        Expect.same("undo()", x.undo(), MigrateSteps.NONE);
+    }
+
+    private static void whatStays() {
+        Expect.sentence("what() stays");
+        MigrateSteps x = withOriginals(3);
+        x.batch(2);
+        Expect.same("what() at first", x.what(), 0);
+        x.migrate(0, 2);
+        Expect.same("what()", x.what(), -13);
+        x.batch(0);
+        Expect.same("what() behind a batch", x.what(), -13);
+        x.batch(0);
+        Expect.same("what() behind one of which none came", x.what(), -13);
+        x.migrate(0, 1);
+        x.batch(2);
+        Expect.same("what() behind one that fails", x.what(), 0);
+    }
+
+    private static void noSuchScript() {
+        Expect.sentence("NONE");
+        MigrateSteps x = withOriginals(3);
+        Expect.same("batch(-1)", x.batch(-1), MigrateSteps.NONE);
+        Expect.same("batch(3)", x.batch(3), MigrateSteps.NONE);
+        Expect.same("batch(10)", x.batch(10), MigrateSteps.NONE);
+        for (int bad : Expect.NO_NUMBERS) {
+            Expect.same("batch(" + bad + ")", x.batch(bad), MigrateSteps.NONE);
         }
+        Expect.same("nothing was run", x.counted(), 0);
+        Expect.same("undo()", x.undo(), MigrateSteps.NONE);
+    }
+
+    private static void noMoreRoom() {
+        Expect.sentence("All ORIGINALS are migrated, though it is FULL");
+        MigrateSteps x = withOriginals(40);
+        Expect.same("twenty fit", x.batch(0), 20);
+        Expect.same("the last of them", x.about(59, 1), 19);
+        Expect.same("all were run", x.counted(), 40 * 3);
+        Expect.tried(x, 40);
+        Expect.same("what() stays", x.what(), 0);
+        Expect.same("none fits", x.batch(1), 0);
+        Expect.same("all were run", x.counted(), 40 * 3 + 40 * 3);
+        Expect.same("undo()", x.undo(), 20);
+        Expect.same("undo()", x.undo(), MigrateSteps.NONE);
+        Expect.same("numbers are not used again", x.batch(0), 0);
+    }
+
+    private static void itDoesNotGoOn() {
+        Expect.sentence("migrated by a script, not gone on with");
+        MigrateSteps x = withOriginals(2);
+        x.chain(0, 1);
+        Expect.same("batch", x.batch(0), 2);
+        Expect.gone(x, "0000");
     }
 }

@@ -4,6 +4,8 @@ import java.util.Random;
 public final class RandomCallsTest {
     private static final int RUNS = 3000;
     private static final int CALLS = 512;
+    /** The most calls of one turn that tells no text: 49 bytes and original(). */
+    private static final int TURN = 50;
     private static final int[] ODD = {Integer.MIN_VALUE, Integer.MAX_VALUE, -2, -1, 10, 39, 40, 59, 60, 255, 256};
     private static final String[] SCRIPTS = {
         "e5 r0 w1 i1 b0", "r0 a1 w1", "e6 r0 x255 w2 i1 b0", "r0 s1 r1 w1 g1 w1", "h0", "w40", "a7 w41",
@@ -29,7 +31,7 @@ public final class RandomCallsTest {
             RandomCallsTest run = new RandomCallsTest(seed);
             // some runs make many items, some few; a text needs many calls
             int texts = 2 + seed % 30;
-            while (run.calls < CALLS) {
+            while (run.calls + TURN <= CALLS) {
                 run.any(texts);
             }
         }
@@ -72,6 +74,9 @@ public final class RandomCallsTest {
 
     private void text() {
         String told = random.nextInt(3) > 0 ? SCRIPTS[random.nextInt(SCRIPTS.length)] : anyText();
+        if (calls + told.length() + 2 > CALLS) {
+            return;
+        }
         for (int i = 0; i < told.length(); i++) {
             int c = told.charAt(i) + (random.nextInt(9) == 0 ? 256 * (random.nextInt(9) - 4) : 0);
             x.sign(c);
