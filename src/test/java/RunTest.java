@@ -23,6 +23,7 @@ public final class RunTest {
         h();
         behindTheLastCommandItEnds();
         pointerDoesNotRunOver();
+        eachChangesOnlyWhatItNames();
         Expect.end();
     }
 
@@ -217,5 +218,27 @@ public final class RunTest {
         Expect.original(m, new int[40]);
         Expect.same(text, m.migrate(0, 0), answer);
         Expect.same(text + ": counted()", m.counted(), steps);
+    }
+
+    private static void eachChangesOnlyWhatItNames() {
+        Expect.sentence("a command changes only what its words name");
+        amid("r1", 30, 7, 20);
+        amid("w0", 7, 7, 20);
+        amid("a1", 8, 7, 20);
+        amid("x1", 6, 7, 20);
+        amid("s0", 7, 7, 20);
+        amid("g0", 0, 7, 20);
+        amid("i1", 7, 7, 30);
+        amid("k0", 7, 7, 10);
+        amid("j4", 7, 7, 20);
+        amid("z9", 7, 7, 20);
+        amid("e9", 7, 7, 20);
+        amid("b4", 7, 7, 20);
+        amid("f7", 7, 7, 20);
+    }
+
+    /** A, M[1] and byte I are put out behind a command that finds 7, 7 and 20 there. */
+    private static void amid(String command, int... out) {
+        OneRun.gives("a7 s1 i1 " + command + " w1 g1 w1 r0 w1", 9, out);
     }
 }
