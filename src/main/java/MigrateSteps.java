@@ -391,7 +391,8 @@ public final class MigrateSteps {
         }
 
         ByteRow copy() {
-            return new ByteRow(Arrays.copyOf(bytes, size), size);
+            int kept = Math.max(0, Math.min(size, bytes.length));
+            return new ByteRow(Arrays.copyOf(bytes, kept), kept);
         }
     }
 
@@ -489,7 +490,8 @@ public final class MigrateSteps {
         }
 
         Script parsed() {
-            return new Script(Arrays.copyOf(letters, commands), Arrays.copyOf(numbers, commands));
+            int kept = Math.max(0, Math.min(commands, MOST_COMMANDS));
+            return new Script(Arrays.copyOf(letters, kept), Arrays.copyOf(numbers, kept));
         }
 
         /** Where the text is wrong, or NONE. */
