@@ -21,13 +21,13 @@ public final class AtTest {
     private static void byteOfAnItem() {
         Expect.sentence("Byte i of an item, 0 .. 255");
         MigrateSteps x = withItems();
-        Expect.same("at(0, 0)", x.at(0, 0), 0);
-        Expect.same("at(0, 1)", x.at(0, 1), 255);
-        Expect.same("at(0, 2)", x.at(0, 2), 128);
-        Expect.same("at(1, 0)", x.at(1, 0), 255);
-        Expect.same("at(1, 2)", x.at(1, 2), 255);
+        Expect.at(x, 0, 0, 0);
+        Expect.at(x, 0, 1, 255);
+        Expect.at(x, 0, 2, 128);
+        Expect.at(x, 1, 0, 255);
+        Expect.at(x, 1, 2, 255);
         Expect.original(x, new int[40]);
-        Expect.same("at(2, 39)", x.at(2, 39), 0);
+        Expect.at(x, 2, 39, 0);
     }
 
     private static void goneOnesToo() {
@@ -70,15 +70,15 @@ public final class AtTest {
         Expect.sentence("NONE if there is no such item");
         MigrateSteps x = withItems();
         for (int i : new int[] {-1, 0, 3, 40, Integer.MIN_VALUE, Integer.MAX_VALUE}) {
-            Expect.same("at(-1, " + i + ")", x.at(-1, i), MigrateSteps.NONE);
-            Expect.same("at(2, " + i + ")", x.at(2, i), MigrateSteps.NONE);
+            Expect.at(x, -1, i, MigrateSteps.NONE);
+            Expect.at(x, 2, i, MigrateSteps.NONE);
             for (int bad : Expect.NO_NUMBERS) {
-                Expect.same("at(" + bad + ", " + i + ")", x.at(bad, i), MigrateSteps.NONE);
+                Expect.at(x, bad, i, MigrateSteps.NONE);
             }
         }
         MigrateSteps y = new MigrateSteps(1, 1);
         Expect.originals(y, 60);
-        Expect.same("at(59, 0)", y.at(59, 0), 59);
-        Expect.same("at(60, 0)", y.at(60, 0), MigrateSteps.NONE);
+        Expect.at(y, 59, 0, 59);
+        Expect.at(y, 60, 0, MigrateSteps.NONE);
     }
 }

@@ -60,8 +60,8 @@ final class Expect {
         tell(x, text);
         try {
             return x.read();
-        } catch (IllegalStateException e) {
-            same("read() of '" + text + "' throws, place " + x.place(), 1, 0);
+        } catch (RuntimeException e) {
+            same("read() of '" + text + "' throws " + e + ", place " + x.place(), 1, 0);
             return MigrateSteps.NONE;
         }
     }
@@ -76,7 +76,7 @@ final class Expect {
         boolean thrown = false;
         try {
             x.read();
-        } catch (IllegalStateException e) {
+        } catch (RuntimeException e) {
             thrown = e.getClass() == IllegalStateException.class;
         }
         same("read() of '" + text + "' throws", thrown ? 1 : 0, 1);
@@ -101,7 +101,16 @@ final class Expect {
         int size = x.about(item, 0);
         same("about(" + item + ", 0)", size, want.length);
         for (int i = 0; i < want.length && i < size; i++) {
-            same("at(" + item + ", " + i + ")", x.at(item, i), want[i]);
+            at(x, item, i, want[i]);
+        }
+    }
+
+    static void at(MigrateSteps x, int item, int i, int want) {
+        String call = "at(" + item + ", " + i + ")";
+        try {
+            same(call, x.at(item, i), want);
+        } catch (RuntimeException e) {
+            same(call + " throws " + e, 1, 0);
         }
     }
 
@@ -109,7 +118,7 @@ final class Expect {
         boolean thrown = false;
         try {
             x.at(item, i);
-        } catch (ArrayIndexOutOfBoundsException e) {
+        } catch (RuntimeException e) {
             thrown = e.getClass() == ArrayIndexOutOfBoundsException.class;
         }
         same("at(" + item + ", " + i + ") throws", thrown ? 1 : 0, 1);

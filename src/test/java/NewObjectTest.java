@@ -67,7 +67,7 @@ public final class NewObjectTest {
         Expect.same("undo()", x.undo(), MigrateSteps.NONE);
         Expect.same("drop(0)", x.drop(0), MigrateSteps.NONE);
         Expect.same("about(0, 0)", x.about(0, 0), MigrateSteps.NONE);
-        Expect.same("at(0, 0)", x.at(0, 0), MigrateSteps.NONE);
+        Expect.at(x, 0, 0, MigrateSteps.NONE);
         Expect.same("the first item", x.original(), 0);
         Expect.same("it is empty", x.about(0, 0), 0);
     }

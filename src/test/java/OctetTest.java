@@ -41,8 +41,8 @@ public final class OctetTest {
         Expect.same("39", collecting(39).about(0, 0), 39);
         MigrateSteps x = collecting(40);
         Expect.same("40", x.about(0, 0), 40);
-        Expect.same("the first", x.at(0, 0), 1);
-        Expect.same("the last", x.at(0, 39), 40);
+        Expect.at(x, 0, 0, 1);
+        Expect.at(x, 0, 39, 40);
     }
 
     private static void beyondFortyIsLost() {
@@ -50,8 +50,8 @@ public final class OctetTest {
         for (int count : new int[] {41, 45, 300}) {
             MigrateSteps x = collecting(count);
             Expect.same(count + " bytes", x.about(0, 0), 40);
-            Expect.same("the first of " + count, x.at(0, 0), 1);
-            Expect.same("the last of " + count, x.at(0, 39), 40);
+            Expect.at(x, 0, 0, 1);
+            Expect.at(x, 0, 39, 40);
             Expect.noByte(x, 0, 40);
         }
     }
